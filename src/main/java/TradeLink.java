@@ -26,20 +26,14 @@ public final class TradeLink {
     /** Stands where a number could be and none is: no number of a frame is below 0. */
     private static final int NONE = -1;
 
-    private final Row peerFrame;
-    private final Scanner scanner;
+    private final Inbox inbox;
     private final Message message;
-    private final Outbox outbox;
-    private final Book book;
     private final Session link;
 
     public TradeLink() {
-        peerFrame = new Row();
-        scanner = new Scanner(peerFrame);
+        inbox = new Inbox();
         message = new Message();
-        outbox = new Outbox();
-        book = new Book();
-        link = new Session(outbox, book);
+        link = new Session();
     }
 
     public int give(int type, int number, boolean duplicate, int a, int b, int c)
@@ -47,90 +41,90 @@ public final class TradeLink {
         if (!Layout.isPeerType(type) || !isNumber(number) || !isNumber(a) || !isNumber(b) || !isNumber(c)) {
             throw new IllegalArgumentException();
         }
-        outbox.clear();
+        link.outbox.clear();
         message.begin(type, number, duplicate);
         message.say(type == HEARTBEAT && a == 0 ? NONE : a, b, c, 0);
-        message.writeTo(peerFrame);
-        return peerFrame.size;
+        message.writeTo(inbox.row);
+        return inbox.row.size;
     }
 
     public int spoil(int i, int x) throws IndexOutOfBoundsException, IllegalArgumentException {
-        if (!peerFrame.has(i)) {
+        if (!inbox.row.has(i)) {
             throw new IndexOutOfBoundsException();
         }
         if (x < 1 || x > HIGHEST_OCTET) {
             throw new IllegalArgumentException();
         }
-        outbox.clear();
-        peerFrame.set(i, peerFrame.at(i) ^ x);
-        return peerFrame.at(i);
+        link.outbox.clear();
+        inbox.row.set(i, inbox.row.at(i) ^ x);
+        return inbox.row.at(i);
     }
 
     public int add(int octet) throws IllegalArgumentException, IllegalStateException {
         if (octet < 0 || octet > HIGHEST_OCTET) {
             throw new IllegalArgumentException();
         }
-        if (peerFrame.isFull()) {
+        if (inbox.row.isFull()) {
             throw new IllegalStateException();
         }
-        outbox.clear();
-        peerFrame.append(octet);
-        return peerFrame.size;
+        link.outbox.clear();
+        inbox.row.append(octet);
+        return inbox.row.size;
     }
 
     public int take() throws IllegalStateException {
-        if (peerFrame.size == 0) {
+        if (inbox.row.size == 0) {
             throw new IllegalStateException();
         }
-        outbox.clear();
-        boolean right = scanner.scan(message);
-        peerFrame.clear();
+        link.outbox.clear();
+        boolean right = inbox.scan(message);
+        inbox.row.clear();
         return right ? link.receive(message) : GARBLED;
     }
 
     public int tick() {
-        outbox.clear();
+        link.outbox.clear();
         link.advance();
         return link.time;
     }
 
     public boolean restart() {
-        outbox.clear();
+        link.outbox.clear();
         boolean wasIn = link.in;
         link.leave();
         return wasIn;
     }
 
     public int fill(int id, int quantity) throws NoSuchElementException, IllegalArgumentException {
-        Order open = book.findOpen(id);
+        Order open = link.book.findOpen(id);
         if (open == null) {
             throw new NoSuchElementException();
         }
         if (quantity < 1 || quantity > open.left()) {
             throw new IllegalArgumentException();
         }
-        outbox.clear();
+        link.outbox.clear();
         open.filled += quantity;
         link.report(id, open);
         return open.filled;
     }
 
     public int frames() {
-        return outbox.count;
+        return link.outbox.count;
     }
 
     public int length(int k) throws IndexOutOfBoundsException {
-        if (!outbox.keeps(k)) {
+        if (!link.outbox.keeps(k)) {
             throw new IndexOutOfBoundsException();
         }
-        return outbox.frame(k).size;
+        return link.outbox.frame(k).size;
     }
 
     public int octet(int k, int i) throws IndexOutOfBoundsException {
-        if (!outbox.keeps(k)) {
+        if (!link.outbox.keeps(k)) {
             throw new IndexOutOfBoundsException();
         }
-        Row frame = outbox.frame(k);
+        Row frame = link.outbox.frame(k);
         if (!frame.has(i)) {
             throw new IndexOutOfBoundsException();
         }
@@ -150,7 +144,7 @@ public final class TradeLink {
             case 4:
                 return link.time;
             case 5:
-                return book.count;
+                return link.book.count;
             case 6:
                 return link.orderMessages;
             default:
@@ -159,7 +153,7 @@ public final class TradeLink {
     }
 
     public int order(int id, int what) throws NoSuchElementException, IndexOutOfBoundsException {
-        Order found = book.find(id);
+        Order found = link.book.find(id);
         if (found == null) {
             throw new NoSuchElementException();
         }
@@ -366,17 +360,14 @@ public final class TradeLink {
         }
     }
 
-    /** Reads a frame from its first byte on; whatever is not as it must be ends the scan. */
-    private static final class Scanner {
+    /** The peer's next frame (no bytes: there is none), and how it is read. */
+    private static final class Inbox {
         private static final int MOST_DIGITS = 6;
         private static final int HIGHEST_TAG_UNIT = 100;
 
-        private final Row row;
+        final Row row = new Row();
+        /** How far it is read. */
         private int at;
-
-        Scanner(Row scanned) {
-            row = scanned;
-        }
 
         /** Whether the frame is right; only then the message holds what it says. */
         boolean scan(Message into) {
@@ -671,8 +662,8 @@ public final class TradeLink {
         private static final int SAID_AGAIN = 10;
         private static final int REFUSED = '8';
 
-        private final Outbox outbox;
-        private final Book book;
+        final Outbox outbox = new Outbox();
+        final Book book = new Book();
         private final Store store = new Store();
         int awaited = 1;
         int next = 1;
@@ -684,11 +675,6 @@ public final class TradeLink {
         private int heard;
         private int said;
         private int asked;
-
-        Session(Outbox sends, Book orders) {
-            outbox = sends;
-            book = orders;
-        }
 
         int receive(Message message) {
             if (!in && message.type != LOGON) {

@@ -9,6 +9,7 @@ public final class ScanTest {
         changesThatKeepTheSum();
         everyShorterFrame();
         nothingHappens();
+        nothingIsLeftOfTheLastFrame();
         Check.end();
     }
 
@@ -39,6 +40,7 @@ public final class ScanTest {
             "35=0|34=2|43=Y|43=Y|", "35=0|34=2|112=5|43=Y|", "35=0|34=2|112=|", "35=0|34=2|112=x|",
             "35=0|34=2|112=1234567|", "35=0|34=2|112=1|112=1|", "35=0|34=2|7=1|", "35=0|34=2|0112=1|",
             "35=0|34=2|58=hello|", "35=1|34=2|", "35=1|34=2|112=|", "35=1|34=2|111=1|", "35=1|34=2|12=1|",
+            "35=1|34=2|112|", "35=1|34=2|112:1|", "35=1|342|112=1|", "350|34=2|",
             "35=2|34=2|7=1|", "35=2|34=2|16=0|7=1|", "35=2|34=2|16=0|", "35=2|34=2|7=1|16=|",
             "35=4|34=2|36=5|", "35=4|34=2|123=Y|", "35=4|34=2|36=5|123=X|", "35=4|34=2|36=5|123=|",
             "35=4|34=2|36=5|123=YN|", "35=4|34=2|36=5|123=1|", "35=4|34=2|36=5|123=y|", "35=4|34=2|123=Y|36=5|",
@@ -156,6 +158,23 @@ public final class ScanTest {
         Check.throwing("it is taken", IllegalStateException.class, () -> side.on().take());
         side.ticks(1);
         side.sent("it was not heard", "35=1|34=3|112=12|");
+    }
+
+    /** What a frame does not say is not taken from the one before it. */
+    private static void nothingIsLeftOfTheLastFrame() {
+        for (String body : new String[] {"", "112=5|", "35=8|", "35=8|112=5|", "35=0|", "34=3|", "35=0|112=5|"}) {
+            Side side = Side.loggedOn();
+            side.deliver(Side.HEARTBEAT, 2, 5, 0, 0);
+            Check.same("behind a HEARTBEAT: " + body, side.deliverBody(body), TradeLink.GARBLED);
+        }
+        String whole = Side.frame("35=0|34=3|112=99|");
+        for (int size = 1; size < whole.length(); size++) {
+            Side side = Side.loggedOn();
+            side.on().give(Side.HEARTBEAT, 3, false, 99, 0, 0);
+            side.on().take();
+            Check.same("the first " + size + " bytes once more", side.deliverBytes(whole.substring(0, size)),
+                TradeLink.GARBLED);
+        }
     }
 
     private static String closed(String open) {

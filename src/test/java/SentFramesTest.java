@@ -2,6 +2,7 @@
 public final class SentFramesTest {
     public static void main(String[] args) {
         whichCallsCount();
+        betweenGiveAndTake();
         bytes();
         moreThanTwenty();
         wrongArguments();
@@ -40,6 +41,25 @@ public final class SentFramesTest {
         side.on().give(Side.LOGON, 9, false, 1, 0, 0);
         side.on().spoil(0, 1);
         Check.same("spoil", side.on().frames(), 0);
+    }
+
+    /** The frame is there already, and other calls send something before it is spoilt or taken. */
+    private static void betweenGiveAndTake() {
+        Side side = Side.loggedOn();
+        side.deliver(Side.NEW, 2, 7, 1, 10);
+        side.on().give(Side.LOGON, 3, false, 1, 0, 0);
+        side.on().fill(7, 1);
+        side.sent("fill", "35=8|34=3|11=7|39=1|14=1|151=9|");
+        side.on().spoil(0, 1);
+        side.sent("spoil");
+        side.on().fill(7, 1);
+        Check.same("a spoilt frame", side.on().take(), TradeLink.GARBLED);
+        side.sent("take");
+        side.on().give(Side.LOGON, 3, false, 1, 0, 0);
+        side.on().fill(7, 1);
+        Check.throwing("give", IllegalArgumentException.class, () -> side.on().give('8', 3, false, 1, 0, 0));
+        side.sent("a give that throws", "35=8|34=5|11=7|39=1|14=3|151=7|");
+        Check.same("the frame is there", side.on().take(), TradeLink.DONE);
     }
 
     private static void bytes() {
