@@ -3,6 +3,8 @@ public final class AddTest {
     public static void main(String[] args) {
         aWholeFrame();
         behindAFrame();
+        everyByte();
+        upToAFullRow();
         wrongArguments();
         Check.end();
     }
@@ -26,6 +28,35 @@ public final class AddTest {
         side.on().give(Side.LOGON, 1, false, 30, 0, 0);
         Check.same("behind a given frame", side.on().add(1), 34);
         Check.same("which is garbled then", side.on().take(), TradeLink.GARBLED);
+    }
+
+    private static void everyByte() {
+        for (int octet = 0; octet <= 127; octet++) {
+            Side side = new Side();
+            Check.same("byte " + octet, side.on().add(octet), 1);
+            Check.same("byte " + octet + " is there", side.on().spoil(0, 64), octet ^ 64);
+        }
+    }
+
+    /** Behind each given frame as many bytes as there is room for, and a new row behind it. */
+    private static void upToAFullRow() {
+        for (char type : "01245ADFG".toCharArray()) {
+            Side side = new Side();
+            int size = side.on().give(type, 1, true, 999999, 999999, 999999);
+            while (size < 120) {
+                size++;
+                Check.same("byte " + size, side.on().add(1), size);
+            }
+            Check.throwing("a byte behind 120", IllegalStateException.class, () -> side.on().add(1));
+            Check.throwing("a wrong byte behind 120", IllegalArgumentException.class, () -> side.on().add(-1));
+            Check.same("120 bytes", side.on().take(), TradeLink.GARBLED);
+            Check.same("a new row", side.on().add(1), 1);
+            for (int more = 2; more <= 120; more++) {
+                side.on().add(1);
+            }
+            Check.same("a frame given over a full row", side.on().give(Side.LOGON, 1, false, 30, 0, 0), 33);
+            Check.same("is right", side.on().take(), TradeLink.DONE);
+        }
     }
 
     private static void wrongArguments() {

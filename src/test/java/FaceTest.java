@@ -10,6 +10,7 @@ public final class FaceTest {
     public static void main(String[] args) {
         constants();
         members();
+        classesInside();
         Check.end();
     }
 
@@ -57,6 +58,28 @@ public final class FaceTest {
             "public int TradeLink.order(int,int) throws " + none + "," + index));
         Check.same("the face", seen.toString(), due.toString());
         Check.same("final", Modifier.isFinal(TradeLink.class.getModifiers()), true);
+    }
+
+    /** LANGUAGE.md, rule 1: they are static and not public, and no method of theirs bears a name of the face. */
+    private static void classesInside() {
+        TreeSet<String> face = new TreeSet<>();
+        for (Method method : TradeLink.class.getMethods()) {
+            face.add(method.getName());
+        }
+        Check.same("the face has take", face.contains("take"), true);
+        for (Class<?> inside : TradeLink.class.getDeclaredClasses()) {
+            String name = inside.getSimpleName();
+            Check.same(name + " is static", Modifier.isStatic(inside.getModifiers()), true);
+            Check.same(name + " is public", Modifier.isPublic(inside.getModifiers()), false);
+            for (Method method : inside.getDeclaredMethods()) {
+                Check.same(name + "." + method.getName(), face.contains(method.getName()), false);
+            }
+        }
+        for (Method method : TradeLink.class.getDeclaredMethods()) {
+            if (Modifier.isPrivate(method.getModifiers())) {
+                Check.same(method.getName(), face.contains(method.getName()), false);
+            }
+        }
     }
 
     private static void note(TreeSet<String> seen, int modifiers, String text) {

@@ -6,6 +6,8 @@ public final class FillTest {
         fills();
         changedOrders();
         whileOut();
+        upToWhatIsLeft();
+        everyState();
         wrongArguments();
         Check.end();
     }
@@ -51,6 +53,66 @@ public final class FillTest {
         side.deliver(Side.LOGON, 4, 30, 0, 0);
         side.deliver(Side.RESEND, 5, 4, 4, 0);
         side.sent("it is stored", "35=8|34=4|43=Y|11=7|39=1|14=4|151=6|");
+    }
+
+    private static void upToWhatIsLeft() {
+        for (int quantity : new int[] {1, 2, 10, 999999}) {
+            for (int filled : new int[] {0, 1, quantity / 2, quantity - 1}) {
+                int left = quantity - filled;
+                if (left == 0) {
+                    continue;
+                }
+                Side side = Side.loggedOn();
+                side.deliver(Side.NEW, 2, 7, 1, quantity);
+                if (filled > 0) {
+                    Check.same("before", side.on().fill(7, filled), filled);
+                }
+                int next = side.on().session(1);
+                String what = filled + " of " + quantity;
+                Check.throwing(what + ": 0", IllegalArgumentException.class, () -> side.on().fill(7, 0));
+                Check.throwing(what + ": one too many", IllegalArgumentException.class, () -> side.on().fill(7, left + 1));
+                Check.same(what + ": NEXT", side.on().session(1), next);
+                side.order(what, 7, 1, quantity, filled, filled > 0 ? 1 : 0);
+                Check.same(what + ": the rest", side.on().fill(7, left), quantity);
+                side.sent(what, "35=8|34=" + next + "|11=7|39=2|14=" + quantity + "|151=0|");
+                side.order(what, 7, 1, quantity, quantity, 2);
+                Check.throwing(what + ": no more", NoSuchElementException.class, () -> side.on().fill(7, 1));
+                Check.throwing(what + ": nor 0", NoSuchElementException.class, () -> side.on().fill(7, 0));
+            }
+        }
+        oneByOne();
+    }
+
+    private static void oneByOne() {
+        Side side = Side.loggedOn();
+        side.deliver(Side.NEW, 2, 7, 1, 100);
+        for (int filled = 1; filled <= 100; filled++) {
+            Check.same("fill", side.on().fill(7, 1), filled);
+            Check.same("state", side.on().order(7, 3), filled < 100 ? 1 : 2);
+        }
+        Check.throwing("no more", NoSuchElementException.class, () -> side.on().fill(7, 1));
+    }
+
+    /** Only open orders, also partly filled ones, can be filled; one that was changed has its new id alone. */
+    private static void everyState() {
+        Side side = Side.loggedOn();
+        side.deliver(Side.NEW, 2, 1, 1, 10);
+        side.deliver(Side.NEW, 3, 2, 1, 10);
+        side.deliver(Side.NEW, 4, 3, 1, 10);
+        side.deliver(Side.NEW, 5, 4, 1, 10);
+        side.on().fill(2, 5);
+        side.on().fill(3, 10);
+        side.deliver(Side.CANCEL, 6, 5, 4, 0);
+        side.deliver(Side.NEW, 7, 6, 3, 10);
+        for (int id : new int[] {Integer.MIN_VALUE, -1, 0, 3, 4, 5, 6, 7, 999999, 1000000, Integer.MAX_VALUE}) {
+            Check.throwing("id " + id, NoSuchElementException.class, () -> side.on().fill(id, 1));
+        }
+        Check.same("an open one", side.on().fill(1, 1), 1);
+        Check.same("a partly filled one", side.on().fill(2, 1), 6);
+        side.deliver(Side.CHANGE, 8, 8, 2, 7);
+        Check.throwing("its old id", NoSuchElementException.class, () -> side.on().fill(2, 1));
+        Check.throwing("above what is left now", IllegalArgumentException.class, () -> side.on().fill(8, 2));
+        Check.same("what is left now", side.on().fill(8, 1), 7);
     }
 
     private static void wrongArguments() {

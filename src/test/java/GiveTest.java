@@ -2,6 +2,7 @@
 public final class GiveTest {
     public static void main(String[] args) {
         lengths();
+        lowestAndHighestNumbers();
         everyTypeIsRight();
         theFrameIsReplaced();
         wrongArguments();
@@ -22,6 +23,34 @@ public final class GiveTest {
             "35=D|34=999999|43=Y|11=999999|54=999999|38=999999|");
         length("CANCEL", 'F', 4, false, 9, 8, 77, "35=F|34=4|11=9|41=8|");
         length("CHANGE", 'G', 3, false, 8, 7, 50, "35=G|34=3|11=8|41=7|38=50|");
+    }
+
+    private static void lowestAndHighestNumbers() {
+        int[] values = {0, 1, 9, 10, 99999, 100000, 999999};
+        for (int number : values) {
+            for (int a : values) {
+                for (int b : new int[] {0, 1, 2, 999999}) {
+                    for (int c : new int[] {0, 1, 999999}) {
+                        everyType(number, a, b, c, false);
+                        everyType(number, a, b, c, true);
+                    }
+                }
+            }
+        }
+    }
+
+    private static void everyType(int number, int a, int b, int c, boolean duplicate) {
+        String head = "|34=" + number + "|" + (duplicate ? "43=Y|" : "");
+        String what = number + " " + duplicate + " " + a + " " + b + " " + c;
+        length(what, '0', number, duplicate, a, b, c, "35=0" + head + (a == 0 ? "" : "112=" + a + "|"));
+        length(what, '1', number, duplicate, a, b, c, "35=1" + head + "112=" + a + "|");
+        length(what, '2', number, duplicate, a, b, c, "35=2" + head + "7=" + a + "|16=" + b + "|");
+        length(what, '4', number, duplicate, a, b, c, "35=4" + head + "36=" + a + "|123=" + (b == 0 ? "N|" : "Y|"));
+        length(what, '5', number, duplicate, a, b, c, "35=5" + head);
+        length(what, 'A', number, duplicate, a, b, c, "35=A" + head + "108=" + a + "|");
+        length(what, 'D', number, duplicate, a, b, c, "35=D" + head + "11=" + a + "|54=" + b + "|38=" + c + "|");
+        length(what, 'F', number, duplicate, a, b, c, "35=F" + head + "11=" + a + "|41=" + b + "|");
+        length(what, 'G', number, duplicate, a, b, c, "35=G" + head + "11=" + a + "|41=" + b + "|38=" + c + "|");
     }
 
     /** Flips each byte to the one that is due: only a frame of just these bytes answers so. */

@@ -1,3 +1,6 @@
+import java.util.ArrayList;
+import java.util.List;
+
 /** Promise 5, take: how a RESEND is answered. */
 public final class ResendTest {
     private static final String FIRST = "35=8|34=2|43=Y|11=7|39=0|14=0|151=10|";
@@ -10,6 +13,9 @@ public final class ResendTest {
         early();
         afterRestart();
         nothingSentSaysNothing();
+        everyRange();
+        oneMessage();
+        changesNothing();
         Check.end();
     }
 
@@ -115,5 +121,59 @@ public final class ResendTest {
         third.sent("a FILL was sent");
         third.ticks(1);
         third.sent("ten after it", "35=0|34=8|");
+    }
+
+    /** Every b and e from 0 to three behind NEXT - 1: 1, 3, 4 and 7 are no reports, 2, 5 and 6 are. */
+    private static void everyRange() {
+        String[] reports = {"", "", FIRST, "", "", SECOND, THIRD, ""};
+        for (int b = 0; b <= 10; b++) {
+            for (int e = 0; e <= 10; e++) {
+                List<String> due = new ArrayList<>();
+                int last = e == 0 || e > 7 ? 7 : e;
+                int gap = 0;
+                for (int number = Math.max(b, 1); number <= last; number++) {
+                    boolean report = !reports[number].isEmpty();
+                    gap = report || gap > 0 ? gap : number;
+                    boolean gapEnds = gap > 0 && (report || number == last);
+                    if (gapEnds) {
+                        due.add("35=4|34=" + gap + "|43=Y|36=" + (report ? number : number + 1) + "|123=Y|");
+                        gap = 0;
+                    }
+                    if (report) {
+                        due.add(reports[number]);
+                    }
+                }
+                answer(b, e, due.toArray(new String[0]));
+            }
+        }
+    }
+
+    /** NEXT - 1 is 1, and that is the LOGON. */
+    private static void oneMessage() {
+        String fill = "35=4|34=1|43=Y|36=2|123=Y|";
+        for (int e : new int[] {0, 1, 2, 999999}) {
+            for (int b : new int[] {0, 1}) {
+                Side side = Side.loggedOn();
+                side.deliver(Side.RESEND, 2, b, e, 0);
+                side.sent("RESEND " + b + " " + e, fill);
+            }
+            for (int b : new int[] {2, 3, 999999}) {
+                Side side = Side.loggedOn();
+                side.deliver(Side.RESEND, 2, b, e, 0);
+                side.sent("RESEND " + b + " " + e);
+            }
+        }
+    }
+
+    /** Nothing gets a new number; and what is sent again can be sent again once more. */
+    private static void changesNothing() {
+        Side side = withReports();
+        for (int number = 7; number <= 10; number++) {
+            Check.same("RESEND", side.deliver(Side.RESEND, number, 2, 3, 0), TradeLink.DONE);
+            side.sent("RESEND " + number, FIRST, "35=4|34=3|43=Y|36=4|123=Y|");
+            Check.same("NEXT", side.on().session(1), 8);
+        }
+        side.order("the order", 7, 1, 10, 4, 1);
+        Check.same("messages of orders", side.on().session(6), 2);
     }
 }

@@ -4,6 +4,8 @@ public final class RestartTest {
         answers();
         whatStays();
         theFrameStays();
+        inEveryState();
+        isOutUntilALogOn();
         Check.end();
     }
 
@@ -45,5 +47,44 @@ public final class RestartTest {
         side.on().give(Side.LOGON, 1, false, 30, 0, 0);
         side.on().restart();
         Check.same("the peer's frame is the peer's", side.on().take(), TradeLink.DONE);
+    }
+
+    /** It answers whether the session was IN, sends nothing, and ends what is missing; the numbers stay. */
+    private static void inEveryState() {
+        for (State state : State.values()) {
+            Side side = state.reached();
+            int awaited = side.on().session(0);
+            int next = side.on().session(1);
+            int time = side.on().session(4);
+            int orders = side.on().session(5);
+            int messages = side.on().session(6);
+            for (int i = 0; i < 3; i++) {
+                boolean wasIn = i == 0 && !state.isOut();
+                Check.same(state + ": restart " + i, side.on().restart(), wasIn);
+                side.sent(state + ": restart " + i);
+                side.state(state + ": restart " + i, awaited, next, 0, false);
+                Check.same(state + ": the time", side.on().session(4), time);
+                Check.same(state + ": orders", side.on().session(5), orders);
+                Check.same(state + ": messages of orders", side.on().session(6), messages);
+            }
+            if (state.left(11) > 0) {
+                Check.same(state + ": the order can be filled", side.on().fill(11, state.left(11)), 10);
+                side.sent(state + ": while OUT");
+                Check.same(state + ": the report has a number", side.on().session(1), next + 1);
+            }
+        }
+    }
+
+    private static void isOutUntilALogOn() {
+        Side side = Side.loggedOn();
+        side.on().restart();
+        for (char type : "01245DFG".toCharArray()) {
+            Check.same("type " + type, side.deliver(type, 2, 9, 1, 9), TradeLink.IGNORED);
+        }
+        Check.same("a low LOGON", side.deliver(Side.LOGON, 1, 30, 0, 0), TradeLink.LOW);
+        side.state("OUT", 2, 2, 0, false);
+        Check.same("a LOGON", side.deliver(Side.LOGON, 2, 30, 0, 0), TradeLink.DONE);
+        side.sent("a LOGON", "35=A|34=2|108=30|");
+        side.state("IN", 3, 3, 0, true);
     }
 }

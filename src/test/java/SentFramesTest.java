@@ -5,6 +5,8 @@ public final class SentFramesTest {
         betweenGiveAndTake();
         bytes();
         moreThanTwenty();
+        twentyAndOne();
+        framesOfEachCall();
         wrongArguments();
         Check.end();
     }
@@ -62,6 +64,41 @@ public final class SentFramesTest {
         Check.same("the frame is there", side.on().take(), TradeLink.DONE);
     }
 
+    /** Each call that can send begins with no frame; one that throws leaves those of the call before it. */
+    private static void framesOfEachCall() {
+        String[] calls = {"give", "spoil", "add", "take", "tick", "restart", "fill"};
+        int[] due = {0, 0, 0, 1, 0, 0, 1};
+        for (int i = 0; i < calls.length; i++) {
+            Side side = Side.loggedOn();
+            side.deliver(Side.NEW, 2, 7, 1, 10);
+            side.on().give(Side.TEST, 3, false, 5, 0, 0);
+            Check.same("given", side.on().frames(), 0);
+            side.on().fill(7, 3);
+            Check.same("filled", side.on().frames(), 1);
+            call(calls[i], side);
+            Check.same(calls[i] + ": frames()", side.on().frames(), due[i]);
+            for (int k = 0; k < 2; k++) {
+                int at = k;
+                if (k >= due[i]) {
+                    Check.throwing(calls[i] + ": length", IndexOutOfBoundsException.class, () -> side.on().length(at));
+                    Check.throwing(calls[i] + ": octet", IndexOutOfBoundsException.class, () -> side.on().octet(at, 0));
+                }
+            }
+        }
+    }
+
+    private static void call(String name, Side side) {
+        switch (name) {
+            case "give" -> side.on().give(Side.TEST, 3, false, 5, 0, 0);
+            case "spoil" -> side.on().spoil(0, 1);
+            case "add" -> side.on().add(0);
+            case "take" -> side.on().take();
+            case "tick" -> side.on().tick();
+            case "restart" -> side.on().restart();
+            default -> side.on().fill(7, 1);
+        }
+    }
+
     private static void bytes() {
         Side side = new Side();
         side.deliver(Side.LOGON, 5, 999999, 0, 0);
@@ -107,6 +144,32 @@ public final class SentFramesTest {
         Check.throwing("length(26)", IndexOutOfBoundsException.class, () -> side.on().length(26));
         side.deliver(Side.TEST, 30, 1, 0, 0);
         Check.throwing("they are gone", IndexOutOfBoundsException.class, () -> side.on().length(1));
+    }
+
+    private static void twentyAndOne() {
+        for (int frames : new int[] {1, 2, 19, 20, 21, 22}) {
+            Side side = Side.loggedOn();
+            for (int i = 1; i <= 25; i++) {
+                side.deliver(Side.NEW, i + 1, i, 1, i);
+            }
+            side.deliver(Side.RESEND, 27, 2, frames + 1, 0);
+            Check.same("frames()", side.on().frames(), frames);
+            for (int k = 0; k <= 22; k++) {
+                int at = k;
+                String what = "frame " + k + " of " + frames;
+                if (k < frames && k <= 19) {
+                    int digits = (k + 2 > 9 ? 1 : 0) + (k + 1 > 9 ? 2 : 0);
+                    Check.same(what, side.on().length(k), 52 + digits);
+                    Check.same(what + ": the first byte", side.on().octet(k, 0), '8');
+                    Check.same(what + ": the last byte", side.on().octet(k, 51 + digits), 1);
+                    Check.throwing(what + ": behind it", IndexOutOfBoundsException.class,
+                        () -> side.on().octet(at, 52 + digits));
+                } else {
+                    Check.throwing(what, IndexOutOfBoundsException.class, () -> side.on().length(at));
+                    Check.throwing(what + ": a byte", IndexOutOfBoundsException.class, () -> side.on().octet(at, 0));
+                }
+            }
+        }
     }
 
     private static void wrongArguments() {

@@ -1,4 +1,4 @@
-/** A new TradeLink and a peer that talks to it; a | in the texts of frames stands for byte 1. */
+/** A new TradeLink and a peer that talks to it; in the texts of frames | is byte 1, and character 1 is byte 124. */
 final class Side {
     static final int HEARTBEAT = '0';
     static final int TEST = '1';
@@ -31,6 +31,10 @@ final class Side {
         return link;
     }
 
+    void checkCalls(int due) {
+        Check.same("the calls of the object", calls, due);
+    }
+
     int deliver(int type, int number, int a, int b, int c) {
         on().give(type, number, false, a, b, c);
         return on().take();
@@ -48,7 +52,7 @@ final class Side {
 
     void addBytes(String text) {
         for (int i = 0; i < text.length(); i++) {
-            on().add(octet(text.charAt(i)));
+            on().add(swap(text.charAt(i)));
         }
     }
 
@@ -75,8 +79,7 @@ final class Side {
         int length = on().length(k);
         StringBuilder text = new StringBuilder();
         for (int i = 0; i < length; i++) {
-            int octet = on().octet(k, i);
-            text.append(octet == 1 ? '|' : (char) octet);
+            text.append(swap(on().octet(k, i)));
         }
         return text.toString();
     }
@@ -103,12 +106,13 @@ final class Side {
     static String sum(String text) {
         int sum = 0;
         for (int i = 0; i < text.length(); i++) {
-            sum += octet(text.charAt(i));
+            sum += swap(text.charAt(i));
         }
         return String.format("%03d", sum % 256);
     }
 
-    private static int octet(char c) {
-        return c == '|' ? 1 : c;
+    /** Byte 1 and byte 124 change places in texts, so that each byte can be written and read. */
+    private static char swap(int c) {
+        return c == '|' ? (char) 1 : c == 1 ? '|' : (char) c;
     }
 }

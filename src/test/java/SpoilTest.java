@@ -2,6 +2,8 @@
 public final class SpoilTest {
     public static void main(String[] args) {
         changes();
+        everyByteAndEveryChange();
+        aFullRow();
         wrongArguments();
         Check.end();
     }
@@ -20,6 +22,33 @@ public final class SpoilTest {
         side.order("it says what it said", 7, 1, 10, 0, 0);
         side.on().add(5);
         Check.same("an added byte", side.on().spoil(0, 5), 0);
+    }
+
+    private static void everyByteAndEveryChange() {
+        for (int octet = 0; octet <= 127; octet++) {
+            Side side = new Side();
+            side.on().add(octet);
+            for (int x = 1; x <= 127; x++) {
+                Check.same(octet + " and " + x, side.on().spoil(0, x), octet ^ x);
+                Check.same(octet + " and " + x + ", and back", side.on().spoil(0, x), octet);
+            }
+        }
+    }
+
+    private static void aFullRow() {
+        Side side = new Side();
+        for (int i = 0; i < 120; i++) {
+            side.on().add(i);
+            int behind = i + 1;
+            Check.throwing("behind byte " + i, IndexOutOfBoundsException.class, () -> side.on().spoil(behind, 1));
+        }
+        for (int i = 0; i < 120; i++) {
+            Check.same("byte " + i, side.on().spoil(i, 127), i ^ 127);
+        }
+        Check.throwing("byte 120", IndexOutOfBoundsException.class, () -> side.on().spoil(120, 127));
+        Check.throwing("byte -1", IndexOutOfBoundsException.class, () -> side.on().spoil(-1, 127));
+        Check.same("the others are as they were", side.on().spoil(119, 127), 119);
+        Check.same("the first too", side.on().spoil(0, 127), 0);
     }
 
     private static void wrongArguments() {
